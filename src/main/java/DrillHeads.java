@@ -38,7 +38,7 @@ public final class DrillHeads {
         }
         hits = new Hits();
         table = new Table();
-        way = new Way(hits);
+        way = new Way();
     }
 
     public boolean spindle(int k, int x, int y, int diameter)
@@ -104,7 +104,7 @@ public final class DrillHeads {
         if (!planned) {
             findPlaces();
             planHits();
-            way.find();
+            way.find(hits);
             planned = true;
         }
         return hits.count;
@@ -542,25 +542,20 @@ public final class DrillHeads {
         final int[] sequence = new int[MAX_HOLES];
         long length;
 
-        private final Hits hits;
         // At [set * hits.count + k]: the shortest way from hit k on through all hits of the set.
         private int[] shortest = new int[0];
 
-        Way(Hits hits) {
-            this.hits = hits;
-        }
-
-        void find() {
+        void find(Hits hits) {
             if (hits.count <= MAX_HITS_FOR_SHORTEST) {
-                fillShortest();
-                takeShortest();
+                fillShortest(hits);
+                takeShortest(hits);
             } else {
-                takeOwnOrder();
+                takeOwnOrder(hits);
             }
-            measure();
+            measure(hits);
         }
 
-        private void fillShortest() {
+        private void fillShortest(Hits hits) {
             int sets = 1 << hits.count;
             if (shortest.length < sets * hits.count) {
                 shortest = new int[sets * hits.count];
@@ -568,20 +563,20 @@ public final class DrillHeads {
             for (int set = 0; set < sets; set++) {
                 for (int k = 0; k < hits.count; k++) {
                     if (!holds(set, k)) {
-                        int next = nextHit(set, hits.x[k], hits.y[k]);
-                        int rest = next == NONE ? 0 : wayOver(next, set, hits.x[k], hits.y[k]);
+                        int next = nextHit(hits, set, hits.x[k], hits.y[k]);
+                        int rest = next == NONE ? 0 : wayOver(hits, next, set, hits.x[k], hits.y[k]);
                         shortest[set * hits.count + k] = rest;
                     }
                 }
             }
         }
 
-        private void takeShortest() {
+        private void takeShortest(Hits hits) {
             int left = (1 << hits.count) - 1;
             int x = 0;
             int y = 0;
             for (int i = 0; i < hits.count; i++) {
-                int next = nextHit(left, x, y);
+                int next = nextHit(hits, left, x, y);
                 if (next == NONE) {
                     return;
                 }
@@ -592,31 +587,31 @@ public final class DrillHeads {
             }
         }
 
-        private void takeOwnOrder() {
+        private void takeOwnOrder(Hits hits) {
             for (int i = 0; i < hits.count; i++) {
                 sequence[i] = i;
             }
         }
 
-        private void measure() {
+        private void measure(Hits hits) {
             length = 0;
             int x = 0;
             int y = 0;
             for (int i = 0; i < hits.count; i++) {
                 int k = sequence[i];
-                length += distance(k, x, y);
+                length += distance(hits, k, x, y);
                 x = hits.x[k];
                 y = hits.y[k];
             }
         }
 
         /** The hit to go to first, of several the least, on a shortest way through a set; NONE if it is empty. */
-        private int nextHit(int set, int fromX, int fromY) {
+        private int nextHit(Hits hits, int set, int fromX, int fromY) {
             int best = NONE;
             int bestWay = 0;
             for (int k = 0; k < hits.count; k++) {
                 if (holds(set, k)) {
-                    int over = wayOver(k, set, fromX, fromY);
+                    int over = wayOver(hits, k, set, fromX, fromY);
                     if (best == NONE || over < bestWay) {
                         best = k;
                         bestWay = over;
@@ -626,11 +621,11 @@ public final class DrillHeads {
             return best;
         }
 
-        private int wayOver(int k, int set, int fromX, int fromY) {
-            return distance(k, fromX, fromY) + shortest[without(set, k) * hits.count + k];
+        private int wayOver(Hits hits, int k, int set, int fromX, int fromY) {
+            return distance(hits, k, fromX, fromY) + shortest[without(set, k) * hits.count + k];
         }
 
-        private int distance(int k, int fromX, int fromY) {
+        private static int distance(Hits hits, int k, int fromX, int fromY) {
             return Math.abs(hits.x[k] - fromX) + Math.abs(hits.y[k] - fromY);
         }
     }

@@ -8,7 +8,7 @@ import java.util.TreeSet;
  * The model tries all hits for all sets, and all orders of the hits.
  */
 public final class DrillHeadsAgainstModel {
-    private static final int RUNS = 3000;
+    private static final int RUNS = 2000;
 
     public static void main(String[] args) {
         for (int run = 0; run < RUNS; run++) {
@@ -364,7 +364,11 @@ public final class DrillHeadsAgainstModel {
         private final DrillHeads drill;
         private final Model model;
         private final int step;
-        private final int spread;
+        private final int spreadX;
+        private final int spreadY;
+        private final int widths;
+        private final int depths;
+        private final int faces;
 
         Run(int number) {
             this.number = number;
@@ -373,7 +377,12 @@ public final class DrillHeadsAgainstModel {
             drill = new DrillHeads(spindles);
             model = new Model(spindles);
             step = random.nextBoolean() ? 1 : 10;
-            spread = 2 + random.nextInt(6);
+            // Few widths, depths, faces and rows make hits of many holes, many of them many hits.
+            spreadX = 1 + random.nextInt(7);
+            spreadY = random.nextInt(3) * random.nextInt(3);
+            widths = 1 + random.nextInt(3) * random.nextInt(2);
+            depths = 1 + random.nextInt(3);
+            faces = 1 + random.nextInt(5) * random.nextInt(2);
         }
 
         void go() {
@@ -391,8 +400,12 @@ public final class DrillHeadsAgainstModel {
             askAll();
         }
 
-        private int at() {
-            return wrong() ? odd() : step * (random.nextInt(2 * spread + 1) - spread);
+        private int atX() {
+            return wrong() ? odd() : step * (random.nextInt(2 * spreadX + 1) - spreadX);
+        }
+
+        private int atY() {
+            return wrong() ? odd() : step * (random.nextInt(2 * spreadY + 1) - spreadY);
         }
 
         private boolean wrong() {
@@ -411,14 +424,18 @@ public final class DrillHeadsAgainstModel {
             return wrong() ? odd() : from + random.nextInt(count);
         }
 
+        private int width() {
+            return random.nextInt(8) == 0 ? 0 : of(1, widths);
+        }
+
         private void tell() {
-            switch (random.nextInt(12)) {
-                case 0, 1, 2, 3 -> tellSpindle(of(0, model.spindles.length), at(), at(), of(0, 4));
-                case 4, 5, 6, 7, 8 -> tellHole(at(), at(), of(1, 3), of(1, 2), of(0, 2));
-                case 9 -> tellThrough(of(0, 14), random.nextInt(3) > 0);
-                case 10 -> {
-                    int x = at();
-                    int y = at();
+            switch (random.nextInt(14)) {
+                case 0, 1, 2, 3 -> tellSpindle(of(0, model.spindles.length), atX(), atY(), width());
+                case 4, 5, 6, 7, 8 -> tellHole(atX(), atY(), of(1, widths), of(1, depths), of(0, faces));
+                case 9, 10, 11 -> tellThrough(of(0, 1 + model.holes.size()), random.nextInt(4) > 0);
+                case 12 -> {
+                    int x = 3 * atX();
+                    int y = 3 * atY();
                     tellClamp(x, y, wrong() ? odd() : x + random.nextInt(3), wrong() ? odd() : y + random.nextInt(3));
                 }
                 default -> {

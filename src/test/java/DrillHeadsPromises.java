@@ -318,6 +318,14 @@ public final class DrillHeadsPromises {
         Due.same("a hit over a drilled hole", 2, twice.run());
         hitIs("twice", twice, 0, 0, 0, 0, 0b011);
         hitIs("twice", twice, 1, 10, 0, 0, 0b100);
+
+        DrillHeads ahead = row(2);
+        holesAt(ahead, 10, 30, 20);
+        ahead.clamp(-1, 0, 0, 1);
+        Due.same("a hit over a drilled hole of a greater number", 2, ahead.run());
+        hitIs("ahead", ahead, 0, 10, 0, 0, 0b101);
+        hitIs("ahead", ahead, 1, 20, 0, 0, 0b010);
+        Due.no("what was drilled before is not drilled again", ahead.drills(1, 2));
     }
 
     private static void promise7Kinds() {
@@ -334,7 +342,6 @@ public final class DrillHeadsPromises {
         hitIs("kinds", d, 0, 0, 0, 0, 0b100001);
 
         DrillHeads faces = row(2);
-        d.through(0, true);
         faces.hole(0, 0, 5, 12, 2);
         faces.hole(10, 0, 5, 12, 3);
         faces.through(0, true);
