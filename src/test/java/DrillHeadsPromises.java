@@ -1,7 +1,7 @@
 /** Each promise of the document by itself: ordinary inputs, the edges it names, and wrong inputs. */
 public final class DrillHeadsPromises {
-    private static final int MIN = Integer.MIN_VALUE;
-    private static final int MAX = Integer.MAX_VALUE;
+    private static final int MIN = Setup.MIN;
+    private static final int MAX = Setup.MAX;
 
     public static void main(String[] args) {
         promise1NewObject();
@@ -30,35 +30,6 @@ public final class DrillHeadsPromises {
         notPlannedAtFirst();
         whatTellsNothing();
         Due.end();
-    }
-
-    /** A head of spindles of width 5 in a row along x, ten apart, the first at 0, 0. */
-    private static DrillHeads row(int spindles) {
-        DrillHeads d = new DrillHeads(spindles);
-        for (int k = 0; k < spindles; k++) {
-            d.spindle(k, 10 * k, 0, 5);
-        }
-        return d;
-    }
-
-    /** Holes of width 5 and depth 12 on face 0, at y = 0. */
-    private static void holesAt(DrillHeads d, int... xs) {
-        for (int x : xs) {
-            d.hole(x, 0, 5, 12, 0);
-        }
-    }
-
-    private static void hitIs(String what, DrillHeads d, int k, int x, int y, int face, int holes) {
-        Due.same(what + ": X of hit " + k, x, d.hit(k, 0));
-        Due.same(what + ": Y of hit " + k, y, d.hit(k, 1));
-        Due.same(what + ": face of hit " + k, face, d.hit(k, 2));
-        Due.same(what + ": holes of hit " + k, holes, d.hit(k, 3));
-    }
-
-    private static void orderIs(String what, DrillHeads d, int... hits) {
-        for (int k = 0; k < hits.length; k++) {
-            Due.same(what + ": order(" + k + ")", hits[k], d.order(k));
-        }
     }
 
     private static void promise1NewObject() {
@@ -93,14 +64,14 @@ public final class DrillHeadsPromises {
 
         d.hole(20, 30, 100, 12, 0);
         Due.same("a hit for the spindle", 1, d.run());
-        hitIs("far spindle", d, 0, -9980, -9970, 0, 1);
+        Setup.hitIs("far spindle", d, 0, -9980, -9970, 0, 1);
         d.spindle(1, 10000, 10000, 0);
         Due.same("a spindle that was taken away drills nothing", 0, d.run());
     }
 
     private static void promise2WrongInputs() {
-        DrillHeads d = row(2);
-        holesAt(d, 0, 10);
+        DrillHeads d = Setup.row(2);
+        Setup.holesAt(d, 0, 10);
         d.run();
         Due.noIndex("spindle -1", () -> Due.bit(d.spindle(-1, 0, 0, 5)));
         Due.noIndex("spindle 2 of 2", () -> Due.bit(d.spindle(2, 0, 0, 5)));
@@ -131,13 +102,13 @@ public final class DrillHeadsPromises {
         Due.answer("the greatest numbers", 1, () -> edges.hole(10000, 10000, 100, 1000, 4));
         edges.spindle(0, -10000, -10000, 100);
         Due.same("only the hole of the spindle's width", 1, edges.run());
-        hitIs("far hole", edges, 0, 20000, 20000, 4, 2);
+        Setup.hitIs("far hole", edges, 0, 20000, 20000, 4, 2);
         Due.same("the longest step", 40000, edges.travel());
     }
 
     private static void promise3WrongInputs() {
-        DrillHeads d = row(1);
-        holesAt(d, 0);
+        DrillHeads d = Setup.row(1);
+        Setup.holesAt(d, 0);
         d.run();
         int[][] wrong = {
             {-10001, 0, 5, 12, 0}, {10001, 0, 5, 12, 0}, {0, -10001, 5, 12, 0}, {0, 10001, 5, 12, 0},
@@ -153,7 +124,7 @@ public final class DrillHeadsPromises {
     }
 
     private static void promise4Through() {
-        DrillHeads d = row(2);
+        DrillHeads d = Setup.row(2);
         d.hole(0, 0, 5, 12, 0);
         d.hole(10, 0, 5, 13, 0);
         Due.no("not through at first", d.through(0, false));
@@ -173,8 +144,8 @@ public final class DrillHeadsPromises {
     }
 
     private static void promise5Clamp() {
-        DrillHeads d = row(1);
-        holesAt(d, 0, 100);
+        DrillHeads d = Setup.row(1);
+        Setup.holesAt(d, 0, 100);
         for (int c = 0; c < 5; c++) {
             int y = 1000 + c;
             Due.yes("clamp " + c, d.clamp(0, y, 1, y + 1));
@@ -190,8 +161,8 @@ public final class DrillHeadsPromises {
     }
 
     private static void promise5WrongInputs() {
-        DrillHeads d = row(1);
-        holesAt(d, 0);
+        DrillHeads d = Setup.row(1);
+        Setup.holesAt(d, 0);
         d.run();
         int[][] wrong = {
             {-20001, 0, 0, 0}, {20001, 0, 20001, 0}, {0, -20001, 0, 0}, {0, 20001, 0, 20001},
@@ -224,15 +195,15 @@ public final class DrillHeadsPromises {
         barred("a clamp that is a line along x", 1, -5, 0, 20, 0);
         barred("a clamp that is a point", 1, 5, 0, 5, 0);
 
-        DrillHeads faces = row(1);
+        DrillHeads faces = Setup.row(1);
         for (int f = 0; f < 5; f++) {
             faces.hole(0, 0, 5, 12, f);
         }
         faces.clamp(0, 0, 1, 1);
         Due.same("a clamp is on all faces", 0, faces.run());
 
-        DrillHeads gone = row(2);
-        holesAt(gone, 0);
+        DrillHeads gone = Setup.row(2);
+        Setup.holesAt(gone, 0);
         gone.clamp(9, 0, 20, 5);
         Due.same("the other place is barred as well", 1, gone.places(0));
         gone.spindle(1, 10, 0, 0);
@@ -245,26 +216,26 @@ public final class DrillHeadsPromises {
         DrillHeads d = new DrillHeads(2);
         d.spindle(0, 0, 0, 5);
         d.spindle(1, 10, 0, 6);
-        holesAt(d, 0);
+        Setup.holesAt(d, 0);
         d.clamp(x0, y0, x1, y1);
         Due.same(what, places, d.places(0));
         Due.same(what + ", as a plan has it", places, d.run());
     }
 
     private static void promise6Mirror() {
-        DrillHeads d = row(1);
+        DrillHeads d = Setup.row(1);
         Due.same("nothing to mirror", 0, d.mirror(0));
         d.hole(3, 4, 5, 12, 0);
         d.hole(-10000, 10000, 5, 12, 0);
         Due.same("mirrored along x", 2, d.mirror(0));
         d.run();
-        hitIs("x", d, 0, -3, 4, 0, 1);
-        hitIs("x", d, 1, 10000, 10000, 0, 2);
+        Setup.hitIs("x", d, 0, -3, 4, 0, 1);
+        Setup.hitIs("x", d, 1, 10000, 10000, 0, 2);
         Due.same("mirrored along y", 2, d.mirror(1));
         Due.noState("mirror tells", () -> d.by(0));
         d.run();
-        hitIs("y", d, 0, -3, -4, 0, 1);
-        hitIs("y", d, 1, 10000, -10000, 0, 2);
+        Setup.hitIs("y", d, 0, -3, -4, 0, 1);
+        Setup.hitIs("y", d, 1, 10000, -10000, 0, 2);
         Due.noArgument("axis -1", () -> d.mirror(-1));
         Due.noArgument("axis 2", () -> d.mirror(2));
         Due.answer("what throws tells nothing", 0, () -> d.by(0));
@@ -275,14 +246,14 @@ public final class DrillHeadsPromises {
         Due.answer("mirror without holes tells nothing", 0, () -> empty.travel());
         Due.noArgument("a wrong axis without holes", () -> empty.mirror(2));
 
-        DrillHeads middle = row(1);
-        holesAt(middle, 0);
+        DrillHeads middle = Setup.row(1);
+        Setup.holesAt(middle, 0);
         middle.run();
         middle.mirror(1);
         Due.noState("mirror tells even where all stays", () -> middle.by(0));
 
-        DrillHeads clamped = row(1);
-        holesAt(clamped, 50);
+        DrillHeads clamped = Setup.row(1);
+        Setup.holesAt(clamped, 50);
         clamped.clamp(-51, -1, -49, 1);
         Due.same("before", 1, clamped.places(0));
         clamped.mirror(0);
@@ -290,46 +261,46 @@ public final class DrillHeadsPromises {
     }
 
     private static void promise7FewestHits() {
-        DrillHeads pairs = row(2);
+        DrillHeads pairs = Setup.row(2);
         // The first place for hole 0 takes hole 1 with it, and leaves 2 and 3 too far apart.
-        holesAt(pairs, 20, 10, 0, 30);
+        Setup.holesAt(pairs, 20, 10, 0, 30);
         Due.same("two pairs", 2, pairs.run());
-        hitIs("pairs", pairs, 0, 20, 0, 0, 0b1001);
-        hitIs("pairs", pairs, 1, 0, 0, 0, 0b0110);
+        Setup.hitIs("pairs", pairs, 0, 20, 0, 0, 0b1001);
+        Setup.hitIs("pairs", pairs, 1, 0, 0, 0, 0b0110);
         Due.same("run again", 2, pairs.run());
 
-        DrillHeads full = row(14);
-        holesAt(full, 0, 10, 20, 30, 40, 50, 60, 70, 80, 90, 100, 110, 120, 130);
+        DrillHeads full = Setup.row(14);
+        Setup.holesAt(full, 0, 10, 20, 30, 40, 50, 60, 70, 80, 90, 100, 110, 120, 130);
         Due.same("fourteen at once", 1, full.run());
-        hitIs("full", full, 0, 0, 0, 0, (1 << 14) - 1);
+        Setup.hitIs("full", full, 0, 0, 0, 0, (1 << 14) - 1);
 
-        DrillHeads alone = row(1);
-        holesAt(alone, 0, 1, 2, 3, 4, 5, 6, 7, 8, 9, 10, 11, 12, 13);
+        DrillHeads alone = Setup.row(1);
+        Setup.holesAt(alone, 0, 1, 2, 3, 4, 5, 6, 7, 8, 9, 10, 11, 12, 13);
         Due.same("fourteen, one by one", 14, alone.run());
 
-        DrillHeads stacked = row(1);
-        holesAt(stacked, 6, 6);
+        DrillHeads stacked = Setup.row(1);
+        Setup.holesAt(stacked, 6, 6);
         Due.same("two holes at one place, one hit", 1, stacked.run());
-        hitIs("stacked", stacked, 0, 6, 0, 0, 3);
+        Setup.hitIs("stacked", stacked, 0, 6, 0, 0, 3);
 
-        DrillHeads twice = row(2);
+        DrillHeads twice = Setup.row(2);
         // Hole 2 can only be drilled at a place that hits hole 0 again, or one farther right.
-        holesAt(twice, 10, 0, 20);
+        Setup.holesAt(twice, 10, 0, 20);
         Due.same("a hit over a drilled hole", 2, twice.run());
-        hitIs("twice", twice, 0, 0, 0, 0, 0b011);
-        hitIs("twice", twice, 1, 10, 0, 0, 0b100);
+        Setup.hitIs("twice", twice, 0, 0, 0, 0, 0b011);
+        Setup.hitIs("twice", twice, 1, 10, 0, 0, 0b100);
 
-        DrillHeads ahead = row(2);
-        holesAt(ahead, 10, 30, 20);
+        DrillHeads ahead = Setup.row(2);
+        Setup.holesAt(ahead, 10, 30, 20);
         ahead.clamp(-1, 0, 0, 1);
         Due.same("a hit over a drilled hole of a greater number", 2, ahead.run());
-        hitIs("ahead", ahead, 0, 10, 0, 0, 0b101);
-        hitIs("ahead", ahead, 1, 20, 0, 0, 0b010);
+        Setup.hitIs("ahead", ahead, 0, 10, 0, 0, 0b101);
+        Setup.hitIs("ahead", ahead, 1, 20, 0, 0, 0b010);
         Due.no("what was drilled before is not drilled again", ahead.drills(1, 2));
     }
 
     private static void promise7Kinds() {
-        DrillHeads d = row(2);
+        DrillHeads d = Setup.row(2);
         d.hole(0, 0, 5, 12, 0);
         d.hole(10, 0, 5, 12, 1);
         d.hole(10, 0, 5, 11, 0);
@@ -339,9 +310,9 @@ public final class DrillHeadsPromises {
         Due.answer("a width without a spindle", 1, () -> Due.bit(d.single(3)));
         d.hole(10, 0, 5, 12, 0);
         Due.same("one that is alike goes with the first", 4, d.run());
-        hitIs("kinds", d, 0, 0, 0, 0, 0b100001);
+        Setup.hitIs("kinds", d, 0, 0, 0, 0, 0b100001);
 
-        DrillHeads faces = row(2);
+        DrillHeads faces = Setup.row(2);
         faces.hole(0, 0, 5, 12, 2);
         faces.hole(10, 0, 5, 12, 3);
         faces.through(0, true);
@@ -354,7 +325,7 @@ public final class DrillHeadsPromises {
         widths.hole(100, 100, 5, 12, 4);
         widths.hole(110, 120, 6, 12, 4);
         Due.same("two widths at once", 1, widths.run());
-        hitIs("widths", widths, 0, 100, 100, 4, 3);
+        Setup.hitIs("widths", widths, 0, 100, 100, 4, 3);
     }
 
     private static void promise7FirstPlace() {
@@ -362,28 +333,28 @@ public final class DrillHeadsPromises {
         d.spindle(0, 0, 0, 5);
         d.spindle(1, 10, 0, 5);
         d.spindle(2, 10, 10, 5);
-        holesAt(d, 0);
+        Setup.holesAt(d, 0);
         d.run();
-        hitIs("the least X, then the least Y", d, 0, -10, -10, 0, 1);
+        Setup.hitIs("the least X, then the least Y", d, 0, -10, -10, 0, 1);
         d.clamp(-11, -11, -10, -10);
         d.run();
-        hitIs("the next Y", d, 0, -10, 0, 0, 1);
+        Setup.hitIs("the next Y", d, 0, -10, 0, 0, 1);
         d.clamp(-11, 10, -10, 11);
         d.run();
-        hitIs("the next X", d, 0, 0, 0, 0, 1);
+        Setup.hitIs("the next X", d, 0, 0, 0, 0, 1);
         d.clamp(10, 10, 11, 11);
         Due.same("no place is left", 0, d.run());
     }
 
     private static void promise8Hit() {
-        DrillHeads d = row(2);
+        DrillHeads d = Setup.row(2);
         Due.noState("before a plan, wrong numbers too", () -> d.hit(9, 9));
         d.hole(3, 4, 5, 12, 2);
         d.hole(13, 4, 5, 12, 2);
         d.hole(13, 4, 5, 12, 1);
         d.run();
-        hitIs("hit", d, 0, 3, 4, 2, 0b011);
-        hitIs("hit", d, 1, 3, 4, 1, 0b100);
+        Setup.hitIs("hit", d, 0, 3, 4, 2, 0b011);
+        Setup.hitIs("hit", d, 1, 3, 4, 1, 0b100);
         Due.noIndex("hit -1", () -> d.hit(-1, 0));
         Due.noIndex("hit 2 of 2", () -> d.hit(2, 0));
         Due.noIndex("the greatest hit", () -> d.hit(MAX, 0));
@@ -395,9 +366,9 @@ public final class DrillHeadsPromises {
     }
 
     private static void promise9Drills() {
-        DrillHeads d = row(2);
+        DrillHeads d = Setup.row(2);
         Due.noState("before a plan", () -> Due.bit(d.drills(-1, -1)));
-        holesAt(d, 20, 10, 0, 30);
+        Setup.holesAt(d, 20, 10, 0, 30);
         d.run();
         int[] holes = {0b1001, 0b0110};
         for (int k = 0; k < 2; k++) {
@@ -419,7 +390,7 @@ public final class DrillHeadsPromises {
         d.spindle(1, 0, 0, 5);
         d.spindle(2, 10, 0, 5);
         d.spindle(3, 10, 0, 5);
-        holesAt(d, 10, 0, 20);
+        Setup.holesAt(d, 10, 0, 20);
         d.hole(0, 0, 9, 12, 0);
         d.run();
         Due.same("the least of two spindles at one place", 2, d.by(0));
@@ -435,9 +406,9 @@ public final class DrillHeadsPromises {
     }
 
     private static void promise11Single() {
-        DrillHeads d = row(2);
+        DrillHeads d = Setup.row(2);
         Due.noState("before a plan", () -> Due.bit(d.single(-1)));
-        holesAt(d, 0, 1000);
+        Setup.holesAt(d, 0, 1000);
         d.hole(0, 0, 6, 12, 0);
         d.clamp(980, -10, 1020, 10);
         d.run();
@@ -453,42 +424,42 @@ public final class DrillHeadsPromises {
     }
 
     private static void promise12Order() {
-        DrillHeads d = row(1);
+        DrillHeads d = Setup.row(1);
         Due.noState("before a plan", () -> d.order(-1));
-        holesAt(d, 30, 10, 20);
+        Setup.holesAt(d, 30, 10, 20);
         d.run();
-        orderIs("along a line", d, 1, 2, 0);
+        Setup.orderIs("along a line", d, 1, 2, 0);
         Due.noIndex("order -1", () -> d.order(-1));
         Due.noIndex("order 3 of 3", () -> d.order(3));
 
-        DrillHeads even = row(1);
-        holesAt(even, 10, -10);
+        DrillHeads even = Setup.row(1);
+        Setup.holesAt(even, 10, -10);
         even.run();
-        orderIs("two ways as short", even, 0, 1);
+        Setup.orderIs("two ways as short", even, 0, 1);
 
-        DrillHeads ring = row(1);
+        DrillHeads ring = Setup.row(1);
         ring.hole(10, 10, 5, 12, 0);
         ring.hole(-10, 10, 5, 12, 0);
         ring.hole(-10, -10, 5, 12, 0);
         ring.hole(10, -10, 5, 12, 0);
         ring.run();
-        orderIs("of eight ways as short the first", ring, 0, 1, 2, 3);
+        Setup.orderIs("of eight ways as short the first", ring, 0, 1, 2, 3);
 
-        DrillHeads knot = row(1);
+        DrillHeads knot = Setup.row(1);
         // The nearest hit first is not the shortest way here: 1, then far left, then far right.
-        holesAt(knot, 1, -3, 9);
+        Setup.holesAt(knot, 1, -3, 9);
         knot.run();
-        orderIs("not the nearest first", knot, 1, 0, 2);
+        Setup.orderIs("not the nearest first", knot, 1, 0, 2);
 
-        DrillHeads face = row(1);
+        DrillHeads face = Setup.row(1);
         face.hole(20, 0, 5, 12, 0);
         face.hole(10, 0, 5, 12, 4);
         face.run();
-        orderIs("a face is no way", face, 1, 0);
+        Setup.orderIs("a face is no way", face, 1, 0);
     }
 
     private static void promise13Travel() {
-        DrillHeads d = row(1);
+        DrillHeads d = Setup.row(1);
         Due.noState("before a plan", () -> d.travel());
         d.run();
         Due.same("without hits", 0, d.travel());
@@ -500,7 +471,7 @@ public final class DrillHeadsPromises {
         d.run();
         Due.same("three hits", 5 + 4 + 5, d.travel());
 
-        DrillHeads far = row(1);
+        DrillHeads far = Setup.row(1);
         for (int h = 0; h < 14; h++) {
             int end = h % 2 == 0 ? 10000 : -10000;
             far.hole(end, end, 5, h + 1, 0);
@@ -510,19 +481,19 @@ public final class DrillHeadsPromises {
     }
 
     private static void promise14Least() {
-        DrillHeads d = row(1);
+        DrillHeads d = Setup.row(1);
         Due.noState("before a plan", () -> Due.bit(d.least()));
         d.run();
         Due.yes("without hits", d.least());
-        holesAt(d, 90, 10, 80, 20, 70, 30, 60, 40, 50, 100);
+        Setup.holesAt(d, 90, 10, 80, 20, 70, 30, 60, 40, 50, 100);
         d.run();
         Due.yes("ten hits", d.least());
         Due.same("ten hits, the shortest way", 100, d.travel());
-        orderIs("ten hits", d, 1, 3, 5, 7, 8, 6, 4, 2, 0, 9);
-        holesAt(d, 0);
+        Setup.orderIs("ten hits", d, 1, 3, 5, 7, 8, 6, 4, 2, 0, 9);
+        Setup.holesAt(d, 0);
         d.run();
         Due.no("eleven hits", d.least());
-        orderIs("eleven hits", d, 0, 1, 2, 3, 4, 5, 6, 7, 8, 9, 10);
+        Setup.orderIs("eleven hits", d, 0, 1, 2, 3, 4, 5, 6, 7, 8, 9, 10);
         Due.same("eleven hits, their own order",
                 90 + 80 + 70 + 60 + 50 + 40 + 30 + 20 + 10 + 50 + 100, d.travel());
         d.through(10, true);
@@ -536,7 +507,7 @@ public final class DrillHeadsPromises {
         Due.noState("before a plan", () -> d.bound());
         d.run();
         Due.same("without either", 0, d.bound());
-        holesAt(d, 0, 1);
+        Setup.holesAt(d, 0, 1);
         d.run();
         Due.same("without spindles", 0, d.bound());
         d.spindle(0, 0, 0, 5);
@@ -545,7 +516,7 @@ public final class DrillHeadsPromises {
         d.spindle(1, 100, 0, 6);
         d.run();
         Due.same("by two spindles, whatever their width", 1, d.bound());
-        holesAt(d, 2);
+        Setup.holesAt(d, 2);
         d.run();
         Due.same("three by two, rounded up", 2, d.bound());
         d.hole(0, 0, 9, 12, 0);
@@ -556,15 +527,15 @@ public final class DrillHeadsPromises {
         d.run();
         Due.same("five by three", 2, d.bound());
 
-        DrillHeads none = row(2);
+        DrillHeads none = Setup.row(2);
         none.run();
         Due.same("without holes", 0, none.bound());
         none.hole(0, 0, 9, 12, 0);
         none.run();
         Due.same("single holes alone", 0, none.bound());
 
-        DrillHeads stacked = row(1);
-        holesAt(stacked, 6, 6);
+        DrillHeads stacked = Setup.row(1);
+        Setup.holesAt(stacked, 6, 6);
         Due.same("two at one place: one hit", 1, stacked.run());
         Due.same("the bound does not know of it", 2, stacked.bound());
     }
@@ -572,7 +543,7 @@ public final class DrillHeadsPromises {
     private static void promise16Places() {
         DrillHeads d = new DrillHeads(4);
         Due.noIndex("no hole", () -> d.places(0));
-        holesAt(d, 0);
+        Setup.holesAt(d, 0);
         Due.same("no spindle", 0, d.places(0));
         d.spindle(0, 0, 0, 5);
         d.spindle(1, 10, 0, 5);
@@ -587,8 +558,8 @@ public final class DrillHeadsPromises {
         Due.noIndex("hole 1 of 1", () -> d.places(1));
         Due.noState("places() is no plan", () -> d.travel());
 
-        DrillHeads full = row(16);
-        holesAt(full, 0, 10);
+        DrillHeads full = Setup.row(16);
+        Setup.holesAt(full, 0, 10);
         Due.same("sixteen places", 16, full.places(1));
         full.run();
         Due.same("after a plan", 16, full.places(0));
@@ -596,7 +567,7 @@ public final class DrillHeadsPromises {
     }
 
     private static void promise17Seconds() {
-        DrillHeads d = row(1);
+        DrillHeads d = Setup.row(1);
         Due.noState("before a plan", () -> d.seconds());
         d.run();
         Due.same("nothing to do", 0, d.seconds());
@@ -622,7 +593,7 @@ public final class DrillHeadsPromises {
         d.spindle(0, 1, 1, 5);
         planIsMissing("after spindle", d);
         d.run();
-        holesAt(d, 0);
+        Setup.holesAt(d, 0);
         planIsMissing("after hole", d);
         d.run();
         d.through(0, true);
@@ -648,11 +619,11 @@ public final class DrillHeadsPromises {
     }
 
     private static void whatTellsNothing() {
-        DrillHeads d = row(1);
+        DrillHeads d = Setup.row(1);
         for (int c = 0; c < 6; c++) {
             d.clamp(500, 500, 501, 501);
         }
-        holesAt(d, 7);
+        Setup.holesAt(d, 7);
         d.run();
         d.spindle(0, 0, 0, 5);
         d.through(0, false);
