@@ -438,6 +438,15 @@ public final class DrillHeadsTerms {
         Setup.hitIs("late", late.drill, 1, 100, 0, 0, 0b001010);
         Setup.hitIs("late", late.drill, 2, 300, 0, 0, 0b110000);
 
+        DrillHeads many = Setup.row(2);
+        Setup.holesAt(many, 20, 10, 0, 30);
+        for (int h = 0; h < 10; h++) {
+            many.hole(0, 0, 5, 100 + h, 0);
+        }
+        Due.same("two pairs, and ten that go with no other", 12, many.run());
+        Setup.hitIs("the first place is wrong with many hits too", many, 0, 20, 0, 0, 0b1001);
+        Setup.hitIs("the other pair", many, 1, 0, 0, 0, 0b0110);
+
         DrillHeads most = Setup.row(1);
         Setup.holesOfDepths(most, 0, 0, 14);
         Due.same("fourteen at one place, none alike", 14, most.run());
